@@ -24,7 +24,7 @@ public final class PeckYard {
     private final Orders orders;
     private final Hand hand;
     private final Line line;
-    private final Groups flocks;
+    private final Groups groupings;
     private final Rings rings;
     private final Leads leads;
 
@@ -35,7 +35,7 @@ public final class PeckYard {
         orders = new Orders(muster);
         hand = new Hand();
         line = new Line(muster);
-        flocks = new Groups(muster);
+        groupings = new Groups(muster);
         rings = new Rings(muster);
         leads = new Leads(muster);
     }
@@ -267,8 +267,8 @@ public final class PeckYard {
     // ---- groups and rings
 
     public long groups() {
-        flocks.settle();
-        return flocks.size;
+        groupings.settle();
+        return groupings.size;
     }
 
     public long groupOf(int hen) {
@@ -278,8 +278,8 @@ public final class PeckYard {
         if (!flock.isCounted(hen)) {
             return NONE;
         }
-        flocks.settle();
-        return flocks.groupAt[muster.slotOf[hen]];
+        groupings.settle();
+        return groupings.groupAt[muster.slotOf[hen]];
     }
 
     public long loose() {
@@ -379,7 +379,9 @@ public final class PeckYard {
 
         void renewPen(int hen, int itsWidth) {
             width[hen] = itsWidth;
-            Arrays.fill(weights, hen * HENS, hen * HENS + HENS, 0);
+            for (int other = 0; other < HENS; other++) {
+                weights[hen * HENS + other] = 0;
+            }
         }
 
         int mostWeight(int hen) {
@@ -663,11 +665,12 @@ public final class PeckYard {
             }
         }
 
+        /** The dearest loop of all: so the choices are shifted along, and no method asks for each of them. */
         private void weighRest(int above, int open) {
             int lightest = NO_WAY;
             int found = 0;
-            for (int slot = 0; slot < muster.size && open >> slot != 0; slot++) {
-                if (isIn(open, slot)) {
+            for (int slot = 0, left = open; slot < HENS && left != 0; slot++, left >>= 1) {
+                if ((left & 1) == 1) {
                     int after = above | 1 << slot;
                     int sum = rest[after] + halves.costBelow(above, slot);
                     if (sum < lightest) {
@@ -812,10 +815,10 @@ public final class PeckYard {
             looseRest[all] = 0;
             for (int above = all - 1; above >= 0; above--) {
                 int lightest = NO_WAY;
-                for (int slot = 0; slot < muster.size; slot++) {
-                    if (!isIn(above, slot)) {
+                for (int slot = 0, left = all & ~above; slot < HENS && left != 0; slot++, left >>= 1) {
+                    if ((left & 1) == 1) {
                         int sum = looseRest[above | 1 << slot] + halves.costBelow(above, slot);
-                        lightest = Math.min(lightest, sum);
+                        lightest = sum < lightest ? sum : lightest;
                     }
                 }
                 looseRest[above] = lightest;
