@@ -124,6 +124,18 @@ public final class BestEdgesTest extends Edges {
             due("least()", x.least(), 1);
             due("loose()", x.loose(), 0);
         });
+        sentence("Promise 12", "fewer COUNT than ahead of it, and more again", () -> {
+            PeckYard x = pecking(yard(HEN, OLD, GUEST), 0, 1, 4, 0, 2, 3, 2, 0, 2, 2, 1, 9, 1, 2, 7);
+            x.ask(1, 0);
+            long[] leasts = {4, 14, 4, 14};
+            for (int n = 0; n < leasts.length; n++) {
+                x.take(2, n % 2);
+                due("least()", x.least(), leasts[n]);
+                due("sure(1, 0)", x.sure(1, 0), 1);
+                due("many()", x.many(), 1);
+                due("loose()", x.loose(), n % 2 == 0 ? 0 : 9);
+            }
+        });
         sentence("Promise 13", "How many BEST ORDERS there are", () -> {
             due("of one hen", hens(1).many(), 1);
             due("of 12, all", hens(12).many(), 479001600L);
@@ -237,6 +249,33 @@ public final class BestEdgesTest extends Edges {
             due("sure(0, 2)", x.sure(0, 2), NONE);
             due("sure(0, 1)", x.sure(0, 1), NONE);
         });
+        sentence("Promise 16", "of the least hens and of the greatest", () -> {
+            PeckYard x = pecking(hens(12), 0, 1, 1, 10, 11, 1);
+            due("sure(0, 1)", x.sure(0, 1), 1);
+            due("sure(1, 0)", x.sure(1, 0), 2);
+            due("sure(10, 11)", x.sure(10, 11), 1);
+            due("sure(11, 10)", x.sure(11, 10), 2);
+            due("sure(0, 11)", x.sure(0, 11), 0);
+            due("sure(10, 1)", x.sure(10, 1), 0);
+        });
+        sentence("Promise 16", "what was sure ahead of a change is not, after it", () -> {
+            PeckYard x = pecking(hens(3), 0, 1, 1);
+            due("sure(0, 1)", x.sure(0, 1), 1);
+            pecking(x, 1, 0, 1);
+            due("sure(0, 1), as heavy both ways", x.sure(0, 1), 0);
+            pecking(x, 1, 0, 2);
+            due("sure(0, 1), the other way", x.sure(0, 1), 2);
+            x.undo();
+            x.undo();
+            due("sure(0, 1), as it was", x.sure(0, 1), 1);
+        });
+        sentence("Promise 16", "orders that were BEST ones ahead of a change say nothing after it", () -> {
+            PeckYard x = hens(3);
+            due("sure(0, 1)", x.sure(0, 1), 0);
+            pecking(x, 1, 0, 1, 0, 2, 5, 2, 1, 5);
+            due("sure(0, 1), with 2 between them", x.sure(0, 1), 1);
+            due("sure(2, 0)", x.sure(2, 0), 2);
+        });
         sentence("Promise 16", "of the most that there can be", () -> {
             PeckYard x = hens(12);
             due("sure(0, 11)", x.sure(0, 11), 0);
@@ -286,6 +325,8 @@ public final class BestEdgesTest extends Edges {
                 PAIR, 1), 1);
         why("(PAIRS that ask for one another round in a ring lead to themselves.) of three", asked(HEN, 1, PAIR, 3,
                 PAIR, 1, PAIR, 2), 1);
+        why("(PAIRS that ask for one another round in a ring lead to themselves.) of five", asked(PAIR, 4,
+                PAIR, 0, PAIR, 1, PAIR, 2, PAIR, 3), 0);
         why("(PAIRS that ask for one another round in a ring lead to themselves.) of twelve", asked(PAIR, 11, PAIR, 0,
                 PAIR, 1, PAIR, 2, PAIR, 3, PAIR, 4, PAIR, 5, PAIR, 6, PAIR, 7, PAIR, 8, PAIR, 9, PAIR, 10), 0);
     }
@@ -302,6 +343,7 @@ public final class BestEdgesTest extends Edges {
         why("of a chain of three: the first leads, the third is led to", asked(PAIR, 1, PAIR, 3, OLD, 0, OLD, 2), 0);
         why("of a chain of three: the third leads, the first is led to", asked(PAIR, 1, PAIR, 3, PULLET, 0,
                 PULLET, 2), 0);
+        why("one between the two of a BLOCK: above the PAIR, below the head", asked(PAIR, 2, OLD, 0, OLD, 1), 0);
         why("two BLOCKS, each above the other", asked(OLD, 3, PAIR, 0, OLD, 1, PAIR, 2), 0);
         why("two BLOCKS, one above the other", asked(OLD, 3, PAIR, 0, HEN, 1, PAIR, 2), NONE);
         why("three BLOCKS round", asked(OLD, 3, PAIR, 0, OLD, 5, PAIR, 2, OLD, 1, PAIR, 4), 0);

@@ -7,7 +7,11 @@ public final class ChangeEdgesTest extends Edges {
     /** A yard in which each call can be refused: three hens, a GUEST, a PEN, pecks, an order in hand, rings. */
     private static PeckYard busyYard() {
         PeckYard x = asked(HEN, NOBODY, PAIR, 0, GUEST, 1);
-        pecking(x, 0, 1, 5, 1, 0, 3);
+        x.pen(0, 3);
+        x.pen(1, 3);
+        x.peck(0, 1, 5);
+        x.peck(1, 0, 3);
+        x.peck(1, 11, 6);
         x.pack();
         standing(x, 1, 0);
         return x;
@@ -302,7 +306,34 @@ public final class ChangeEdgesTest extends Edges {
         takenBack("pen of the same WIDTH", x -> x.pen(0, 3));
         takenBack("peck", x -> x.peck(0, 2, 1000000));
         takenBack("peck of 0", x -> x.peck(0, 1, 0));
+        takenBack("peck on the last of the row", x -> x.peck(0, 11, 8));
         takenBack("leave", x -> x.leave(0));
+        takenBack("leave of a PEN that has the last of the row", x -> x.leave(1));
+        sentence("Promise 11", "The latest change is taken back: a GUEST that was taken in is so again", () -> {
+            PeckYard x = yard(HEN, GUEST);
+            x.take(1, 1);
+            x.take(1, 0);
+            due("undo()", x.undo(), 3);
+            due("about(1, 2)", x.about(1, 2), 1);
+            x.ask(1, 0);
+            x.pen(1, 0);
+            x.undo();
+            x.undo();
+            due("about(1, 2), after other changes of it", x.about(1, 2), 1);
+            due("count(1)", x.count(1), 2);
+            due("undo()", x.undo(), 2);
+            due("about(1, 2)", x.about(1, 2), 0);
+        });
+        sentence("Promise 11", "The latest change is taken back: other hens stay as they are", () -> {
+            PeckYard x = pecking(hens(3), 0, 1, 4, 2, 1, 6);
+            x.ask(1, 2);
+            x.undo();
+            due("pecks(0, 1)", x.pecks(0, 1), 4);
+            due("pecks(2, 1)", x.pecks(2, 1), 6);
+            x.undo();
+            due("pecks(2, 1)", x.pecks(2, 1), 0);
+            due("pecks(0, 1)", x.pecks(0, 1), 4);
+        });
         sentence("Promise 11", "a peck on one that is taken back stays in the PEN", () -> {
             PeckYard x = pecking(hens(1), 0, 1, 7);
             x.hen(HEN, NOBODY);
