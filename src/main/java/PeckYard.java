@@ -6,6 +6,7 @@ public final class PeckYard {
 
     private static final int HENS = 12;
     private static final int NOBODY = -2000000005;
+    private static final int HEN = 0;
     private static final int PULLET = 1;
     private static final int OLD = 2;
     private static final int PAIR = 3;
@@ -134,7 +135,7 @@ public final class PeckYard {
             return BAD;
         }
         int own = flock.kind[hen];
-        return kind == 0 || kind == own || (kind == PULLET && own == PAIR) ? 1 : 0;
+        return kind == HEN || kind == own || (kind == PULLET && own == PAIR) ? 1 : 0;
     }
 
     public long pecks(int hen, int other) {
@@ -388,10 +389,8 @@ public final class PeckYard {
             return width[hen] == MISSING ? MOST_WEIGHT : MOST_OF_WIDTH[width[hen]];
         }
 
-        /** The one whom a hen's place depends on; NOBODY, if what it asks is not looked at. */
-        int lookedAt(int hen) {
-            boolean asksForNothing = kind[hen] == 0 || kind[hen] == GUEST;
-            return asksForNothing || !isCounted(asks[hen]) ? NOBODY : asks[hen];
+        boolean asksForSomebody(int hen) {
+            return kind[hen] != HEN && kind[hen] != GUEST && asks[hen] != NOBODY;
         }
 
         int penCount() {
@@ -524,8 +523,8 @@ public final class PeckYard {
         }
 
         private void gatherAsking(int slot) {
-            int asked = flock.lookedAt(hens[slot]);
-            wants[slot] = asked == NOBODY ? NOT_THERE : slotOf[asked];
+            int hen = hens[slot];
+            wants[slot] = flock.asksForSomebody(hen) ? slotOf[flock.asks[hen]] : NOT_THERE;
             if (wants[slot] == NOT_THERE) {
                 return;
             }
